@@ -98,6 +98,7 @@ public final class MapsTest {
 
     private static void knownShare() {
         CHECKS.refuses("no trails", ArithmeticException.class, () -> withTrails(0).knownShare());
+        CHECKS.same("the only one", withTrails(1).knownShare(), 1f);
         WayMarker x = withTrails(3);
         CHECKS.same("all", x.knownShare(), 1f);
         x.washOut(0);

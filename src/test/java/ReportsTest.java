@@ -13,6 +13,7 @@ public final class ReportsTest {
         trustCountsAsItIs();
         reportWithMoreTrust();
         reports();
+        reportsOfTheLastTrails();
         CHECKS.end();
     }
 
@@ -199,5 +200,18 @@ public final class ReportsTest {
         x.addTask('r', 1, 5);
         CHECKS.same("done at the other end", x.day(), 1);
         CHECKS.same("the other trail was seen", x.reports(0), 10);
+    }
+
+    private static void reportsOfTheLastTrails() {
+        WayMarker x = withTrails(24);
+        x.report(0, 23, true);
+        CHECKS.same("of the last one", x.reports(23), 1);
+        CHECKS.same("of the one before", x.reports(22), 0);
+        x.report(9, 23, true);
+        x.report(9, 22, true);
+        CHECKS.same("of the last one, by the last walker", x.reports(23), 2);
+        CHECKS.same("of the one before, by the last walker", x.reports(22), 1);
+        CHECKS.yes("the last one is taken as gone", x.isGone(23, false));
+        CHECKS.no("the one before is not", x.isGone(22, false));
     }
 }

@@ -408,7 +408,11 @@ public final class WayMarker {
     private void putUp(int board) {
         int fork = boards.fork[board];
         int place = boards.place[board];
-        boards.trail[board] = net.trailTowards(fork, place);
+        int trail = net.trailTowards(fork, place);
+        // Where canTell holds there is one; NONE is looked at all the same, as no board may tell it.
+        if (trail != NONE) {
+            boards.trail[board] = trail;
+        }
         boards.minutesTold[board] = roundUp(net.taken.leastMinutes(fork, place));
         boards.covered[board] = false;
         boards.wood--;
@@ -633,7 +637,7 @@ public final class WayMarker {
             return NONE;
         }
 
-        /** The minutes from a fork to another one, if the first trail is this one; NO_WAY or more if there is no way. */
+        /** The minutes from a fork to another one by this trail at first; NO_WAY or more if there is no way. */
         int minutesBy(int trail, int from, int to, View view) {
             return minutesFrom(trail, from) + view.leastMinutes(otherEnd(trail, from), to);
         }

@@ -40,11 +40,6 @@ public final class BoardsTest {
         return x;
     }
 
-    private static void reportGone(WayMarker x, int trail) {
-        x.report(0, trail, true);
-        x.report(1, trail, true);
-    }
-
     private static void cut() {
         WayMarker x = small(30, 41);
         x.addTrail(1, 2, 20, 20);
@@ -71,7 +66,7 @@ public final class BoardsTest {
         x.washOut(0);
         CHECKS.same("cut as the office takes it", x.cut(0, 1), 5);
         CHECKS.same("told as the office takes it", x.told(5), 30);
-        reportGone(x, 0);
+        Offices.takeAsGone(x, 0);
         x.addTrail(0, 2, 50, 50);
         CHECKS.same("cut as the office takes it now", x.cut(0, 1), 6);
         CHECKS.same("trail as the office takes it now", x.trailOf(6), 2);
@@ -101,7 +96,7 @@ public final class BoardsTest {
         CHECKS.refuses("301 minutes", NoSuchElementException.class, () -> y.cut(2, 0));
         y.washOut(0);
         CHECKS.same("the office does not know", y.cut(1, 0), 0);
-        reportGone(y, 0);
+        Offices.takeAsGone(y, 0);
         CHECKS.refuses("no way", NoSuchElementException.class, () -> y.cut(1, 0));
 
         WayMarker z = small(5, 5);
@@ -152,7 +147,7 @@ public final class BoardsTest {
         x.cut(1, 0);
         x.addRanger(0, 0);
         x.addTrail(0, 1, 100, 1);
-        reportGone(x, 0);
+        Offices.takeAsGone(x, 0);
         x.plan();
         CHECKS.no("planned is not covered", x.isCovered(0));
         x.day();
@@ -163,7 +158,7 @@ public final class BoardsTest {
 
     private static void dangerOfDetours() {
         for (int more = 28; more <= 31; more++) {
-            WayMarker x = threePlaces();
+            WayMarker x = Offices.withForks(3);
             x.addTrail(0, 1, 11, 11);
             x.addTrail(1, 2, 7, 100);
             x.addTrail(1, 2, 9 + more, 100);
@@ -172,7 +167,7 @@ public final class BoardsTest {
             x.washOut(1);
             CHECKS.same("more by " + more, x.danger(0, true), more < 30 ? 0 : more);
             CHECKS.same("more by " + more + ", as taken", x.danger(0, false), 0);
-            reportGone(x, 1);
+            Offices.takeAsGone(x, 1);
             CHECKS.same("more by " + more + ", as taken now", x.danger(0, false), more < 30 ? 0 : more);
         }
         WayMarker y = small(50, 50);
@@ -181,16 +176,8 @@ public final class BoardsTest {
         CHECKS.same("a shorter way is no lie", y.danger(0, true), 0);
     }
 
-    private static WayMarker threePlaces() {
-        WayMarker x = new WayMarker();
-        x.addFork(true);
-        x.addFork(true);
-        x.addFork(true);
-        return x;
-    }
-
     private static void dangerOfGoneTrails() {
-        WayMarker x = threePlaces();
+        WayMarker x = Offices.withForks(3);
         x.addTrail(0, 1, 10, 10);
         x.addTrail(1, 2, 10, 10);
         x.addTrail(0, 2, 30, 30);
@@ -202,7 +189,7 @@ public final class BoardsTest {
         x.addTrail(1, 0, 39, 39);
         CHECKS.same("another trail does not help the board", x.danger(0, true), 1000);
         CHECKS.same("another trail from the other end does", x.danger(1, true), 0);
-        WayMarker y = threePlaces();
+        WayMarker y = Offices.withForks(3);
         y.addTrail(0, 1, 10, 10);
         y.addTrail(1, 2, 10, 10);
         y.cut(0, 2);
@@ -215,7 +202,7 @@ public final class BoardsTest {
         WayMarker x = small(10, 10);
         x.addTrail(0, 1, 90, 90);
         x.cut(0, 1);
-        reportGone(x, 0);
+        Offices.takeAsGone(x, 0);
         CHECKS.same("as taken", x.danger(0, false), 1000);
         CHECKS.same("as it is", x.danger(0, true), 0);
     }
@@ -251,7 +238,7 @@ public final class BoardsTest {
         CHECKS.same("danger of the third", x.danger(2, true), 190);
         CHECKS.same("as it is", x.unsafe(true), 2);
         CHECKS.same("as taken", x.unsafe(false), 0);
-        reportGone(x, 0);
+        Offices.takeAsGone(x, 0);
         CHECKS.same("as taken now", x.unsafe(false), 2);
         x.washOut(2);
         CHECKS.same("as it is without any way", x.unsafe(true), 3);

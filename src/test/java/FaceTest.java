@@ -1,7 +1,10 @@
+import java.io.IOException;
 import java.lang.reflect.Constructor;
 import java.lang.reflect.Field;
 import java.lang.reflect.Method;
 import java.lang.reflect.Modifier;
+import java.nio.file.Files;
+import java.nio.file.Path;
 import java.util.ArrayList;
 import java.util.List;
 import java.util.Set;
@@ -19,7 +22,8 @@ public final class FaceTest {
         "int firstTrail(int,int) throws java.lang.IndexOutOfBoundsException,java.util.NoSuchElementException",
         "int addWood(int) throws java.lang.IllegalArgumentException",
         "int cut(int,int) throws java.lang.IndexOutOfBoundsException,java.lang.IllegalArgumentException,"
-            + "java.util.NoSuchElementException,java.lang.UnsupportedOperationException,java.lang.IllegalStateException",
+            + "java.util.NoSuchElementException,java.lang.UnsupportedOperationException,"
+            + "java.lang.IllegalStateException",
         "int trailOf(int) throws java.lang.IndexOutOfBoundsException",
         "int told(int) throws java.lang.IndexOutOfBoundsException",
         "boolean isCovered(int) throws java.lang.IndexOutOfBoundsException",
@@ -48,7 +52,16 @@ public final class FaceTest {
         "boolean isSound()",
     };
 
-    public static void main(String[] args) {
+    private static final String[][] HEADS = {
+        {"trails", "addFork", "addTrail", "washOut", "isGone", "minutes", "firstTrail"},
+        {"boards", "addWood", "cut", "trailOf", "told", "isCovered", "danger", "unsafe"},
+        {"reports", "report", "trust", "reports"},
+        {"tasks and rangers", "addTask", "plan", "kindOf", "numberOf", "doneBy", "openTasks", "addRanger", "forkOf",
+            "worked", "day"},
+        {"maps and figures", "print", "shows", "age", "knownShare", "meanDanger", "isSound"},
+    };
+
+    public static void main(String[] args) throws IOException {
         Checks checks = new Checks();
         Class<?> type = WayMarker.class;
         checks.yes("public", Modifier.isPublic(type.getModifiers()));
@@ -77,12 +90,28 @@ public final class FaceTest {
             checks.yes("public constructor", Modifier.isPublic(constructor.getModifiers()));
             checks.same("its parameters", constructor.getParameterCount(), 0);
         }
+        headsStandAhead(checks, Files.readString(Path.of("src/main/java/WayMarker.java")));
         fieldsAreKept(checks, type, true);
         for (Class<?> inside : type.getDeclaredClasses()) {
             checks.yes(inside + " is static", Modifier.isStatic(inside.getModifiers()));
             fieldsAreKept(checks, inside, false);
         }
         checks.end();
+    }
+
+    /** The calls stand in the document's order, behind the heads that the document names. */
+    private static void headsStandAhead(Checks checks, String source) {
+        int at = 0;
+        for (String[] head : HEADS) {
+            int next = source.indexOf("    // ---- " + head[0] + "\n", at);
+            checks.yes("the head " + head[0], next > at);
+            at = next;
+            for (int call = 1; call < head.length; call++) {
+                next = source.indexOf(" " + head[call] + "(", at);
+                checks.yes(head[call] + " stands behind " + head[0], next > at);
+                at = next;
+            }
+        }
     }
 
     private static String describe(Method method) {

@@ -13,23 +13,8 @@ public final class MapsTest {
         CHECKS.end();
     }
 
-    private static WayMarker withTrails(int trails) {
-        WayMarker x = new WayMarker();
-        x.addFork(true);
-        x.addFork(true);
-        for (int trail = 0; trail < trails; trail++) {
-            x.addTrail(0, 1, 10, 10);
-        }
-        return x;
-    }
-
-    private static void reportGone(WayMarker x, int trail) {
-        x.report(0, trail, true);
-        x.report(1, trail, true);
-    }
-
     private static void print() {
-        WayMarker x = withTrails(1);
+        WayMarker x = Offices.withTrails(1);
         for (int map = 0; map < 10; map++) {
             CHECKS.same("print", x.print(), map);
         }
@@ -41,14 +26,14 @@ public final class MapsTest {
     }
 
     private static void shows() {
-        WayMarker x = withTrails(3);
-        reportGone(x, 1);
+        WayMarker x = Offices.withTrails(3);
+        Offices.takeAsGone(x, 1);
         x.washOut(2);
         CHECKS.same("print", x.print(), 0);
         CHECKS.yes("passable", x.shows(0, 0));
         CHECKS.no("taken as gone", x.shows(0, 1));
         CHECKS.yes("gone without the office knowing", x.shows(0, 2));
-        reportGone(x, 0);
+        Offices.takeAsGone(x, 0);
         x.report(2, 1, false);
         x.report(3, 1, false);
         x.addTrail(0, 1, 10, 10);
@@ -65,7 +50,7 @@ public final class MapsTest {
         CHECKS.same("print all", x.print(), 2);
         CHECKS.yes("the last one", x.shows(2, 23));
         CHECKS.no("not on the map before", x.shows(1, 23));
-        reportGone(x, 23);
+        Offices.takeAsGone(x, 23);
         CHECKS.same("print once more", x.print(), 3);
         CHECKS.no("the last one is gone", x.shows(3, 23));
         CHECKS.no("the first one is gone still", x.shows(3, 0));
@@ -73,7 +58,7 @@ public final class MapsTest {
     }
 
     private static void showsRefuses() {
-        WayMarker x = withTrails(1);
+        WayMarker x = Offices.withTrails(1);
         x.print();
         for (int wrong : new int[] {-1, 1, 10, 24, Integer.MIN_VALUE, Integer.MAX_VALUE}) {
             CHECKS.refuses("map " + wrong, IndexOutOfBoundsException.class, () -> x.shows(wrong, 0));
@@ -84,7 +69,7 @@ public final class MapsTest {
     }
 
     private static void age() {
-        WayMarker x = withTrails(1);
+        WayMarker x = Offices.withTrails(1);
         x.print();
         CHECKS.same("today", x.age(0), 0);
         x.day();
@@ -97,29 +82,29 @@ public final class MapsTest {
     }
 
     private static void knownShare() {
-        CHECKS.refuses("no trails", ArithmeticException.class, () -> withTrails(0).knownShare());
-        CHECKS.same("the only one", withTrails(1).knownShare(), 1f);
-        WayMarker x = withTrails(3);
+        CHECKS.refuses("no trails", ArithmeticException.class, () -> Offices.withTrails(0).knownShare());
+        CHECKS.same("the only one", Offices.withTrails(1).knownShare(), 1f);
+        WayMarker x = Offices.withTrails(3);
         CHECKS.same("all", x.knownShare(), 1f);
         x.washOut(0);
         CHECKS.same("two of three", x.knownShare(), 2f / 3f);
-        reportGone(x, 1);
+        Offices.takeAsGone(x, 1);
         CHECKS.same("one of three", x.knownShare(), 1f / 3f);
-        reportGone(x, 2);
+        Offices.takeAsGone(x, 2);
         CHECKS.same("none of three", x.knownShare(), 0f);
-        reportGone(x, 0);
+        Offices.takeAsGone(x, 0);
         CHECKS.same("one that is gone is known", x.knownShare(), 1f / 3f);
     }
 
     private static void meanDanger() {
-        CHECKS.refuses("no boards", ArithmeticException.class, () -> withTrails(3).meanDanger());
-        WayMarker x = withTrails(1);
+        CHECKS.refuses("no boards", ArithmeticException.class, () -> Offices.withTrails(3).meanDanger());
+        WayMarker x = Offices.withTrails(1);
         x.cut(0, 1);
         CHECKS.same("no danger", x.meanDanger(), 0.0);
         x.washOut(0);
         CHECKS.same("no danger that the office knows", x.meanDanger(), 0.0);
         x.addTrail(0, 1, 20, 20);
-        reportGone(x, 0);
+        Offices.takeAsGone(x, 0);
         CHECKS.same("a gone trail", x.meanDanger(), 1000.0);
         x.cut(0, 1);
         x.cut(0, 1);
@@ -133,7 +118,7 @@ public final class MapsTest {
 
     private static void isSound() {
         CHECKS.yes("a new one", new WayMarker().isSound());
-        WayMarker x = withTrails(2);
+        WayMarker x = Offices.withTrails(2);
         x.addFork(false);
         CHECKS.yes("with a fork without a way", x.isSound());
         x.addTrail(2, 0, 300, 1);
@@ -142,7 +127,7 @@ public final class MapsTest {
         x.washOut(0);
         x.washOut(3);
         CHECKS.yes("as it is", x.isSound());
-        reportGone(x, 1);
+        Offices.takeAsGone(x, 1);
         CHECKS.yes("as taken", x.isSound());
         x.addTask('m', 1, 0);
         x.addRanger(1, 2);
@@ -152,10 +137,10 @@ public final class MapsTest {
         x.day();
         x.day();
         CHECKS.yes("with tasks that are over", x.isSound());
-        reportGone(x, 0);
-        reportGone(x, 1);
-        reportGone(x, 2);
-        reportGone(x, 3);
+        Offices.takeAsGone(x, 0);
+        Offices.takeAsGone(x, 1);
+        Offices.takeAsGone(x, 2);
+        Offices.takeAsGone(x, 3);
         CHECKS.yes("without a way", x.isSound());
     }
 }

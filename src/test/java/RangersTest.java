@@ -29,21 +29,8 @@ public final class RangersTest {
         CHECKS.end();
     }
 
-    private static WayMarker withForks(int forks) {
-        WayMarker x = new WayMarker();
-        for (int fork = 0; fork < forks; fork++) {
-            x.addFork(true);
-        }
-        return x;
-    }
-
-    private static void reportGone(WayMarker x, int trail) {
-        x.report(8, trail, true);
-        x.report(9, trail, true);
-    }
-
     private static void addRanger() {
-        WayMarker x = withForks(2);
+        WayMarker x = Offices.withForks(2);
         for (int fork : new int[] {-1, 2, 16, Integer.MIN_VALUE, Integer.MAX_VALUE}) {
             CHECKS.refuses("at fork " + fork, IndexOutOfBoundsException.class, () -> x.addRanger(fork, 0));
             CHECKS.refuses("fork ahead of tools", IndexOutOfBoundsException.class, () -> x.addRanger(fork, 4));
@@ -62,7 +49,7 @@ public final class RangersTest {
     }
 
     private static void rangersThatAreNotThere() {
-        WayMarker x = withForks(1);
+        WayMarker x = Offices.withForks(1);
         x.addRanger(0, 0);
         for (int ranger : new int[] {-1, 1, 4, Integer.MIN_VALUE, Integer.MAX_VALUE}) {
             CHECKS.refuses("forkOf " + ranger, IndexOutOfBoundsException.class, () -> x.forkOf(ranger));
@@ -71,7 +58,7 @@ public final class RangersTest {
     }
 
     private static void daysAreFifty() {
-        WayMarker x = withForks(2);
+        WayMarker x = Offices.withForks(2);
         x.addTrail(0, 1, 10, 10);
         x.cut(0, 1);
         x.print();
@@ -89,7 +76,7 @@ public final class RangersTest {
 
     /** Boards at the fork 0 that tell the trail 0, and tasks to replace them, of these dangers. */
     private static WayMarker toReplace(int[] dangers) {
-        WayMarker x = withForks(2);
+        WayMarker x = Offices.withForks(2);
         x.addTrail(0, 1, 10, 10);
         x.addWood(99);
         for (int task = 0; task < dangers.length; task++) {
@@ -108,7 +95,7 @@ public final class RangersTest {
             x.cut(0, 1);
             x.addTask('r', 6 + task, 6);
         }
-        reportGone(x, 0);
+        Offices.takeAsGone(x, 0);
         CHECKS.same("six are done", x.day(), 6);
         for (int task : new int[] {3, 1, 2, 6, 7, 8}) {
             CHECKS.same("done " + task, x.doneBy(task), 0);
@@ -124,12 +111,12 @@ public final class RangersTest {
     private static void needsTools() {
         int[] done = {2, 3, 3, 4};
         for (int tools = 0; tools <= 3; tools++) {
-            WayMarker x = withForks(2);
+            WayMarker x = Offices.withForks(2);
             x.addTrail(0, 1, 10, 10);
             x.addTrail(0, 1, 20, 20);
             x.cut(0, 1);
             x.cut(0, 1);
-            reportGone(x, 0);
+            Offices.takeAsGone(x, 0);
             x.plan();
             x.addTask('r', 1, 1);
             x.addTask('m', 0, 0);
@@ -143,7 +130,7 @@ public final class RangersTest {
 
     private static void needsTime() {
         for (int way = 269; way <= 271; way++) {
-            WayMarker x = withForks(3);
+            WayMarker x = Offices.withForks(3);
             x.addTrail(0, 1, way, way);
             x.addTrail(0, 2, 10, 10);
             x.cut(0, 2);
@@ -161,22 +148,22 @@ public final class RangersTest {
             CHECKS.same("minutes", x.worked(0), way <= 270 ? 210 + way : 180);
         }
         for (int way = 279; way <= 281; way++) {
-            WayMarker x = withForks(2);
+            WayMarker x = Offices.withForks(2);
             x.addTrail(0, 1, 10, way);
             x.addTrail(0, 1, 1, 1);
-            reportGone(x, 1);
+            Offices.takeAsGone(x, 1);
             x.addTask('m', 1, 9);
             x.addRanger(1, 2);
             CHECKS.same("200 minutes, and the way of " + way, x.day(), way <= 280 ? 1 : 0);
             CHECKS.same("minutes", x.worked(0), way <= 280 ? 200 + way : 0);
         }
         for (int way = 169; way <= 171; way++) {
-            WayMarker x = withForks(3);
+            WayMarker x = Offices.withForks(3);
             x.addTrail(0, 1, 300, 300);
             x.addTrail(1, 2, way, way);
             x.addTrail(0, 2, 5, 300);
             x.cut(0, 2);
-            reportGone(x, 2);
+            Offices.takeAsGone(x, 2);
             x.plan();
             x.addRanger(2, 0);
             CHECKS.same("10 minutes, 300, and the way of " + way, x.day(), way <= 170 ? 1 : 0);
@@ -185,7 +172,7 @@ public final class RangersTest {
     }
 
     private static void hasTimeForTheWay() {
-        WayMarker x = withForks(3);
+        WayMarker x = Offices.withForks(3);
         x.addTrail(0, 1, 300, 300);
         x.addTrail(1, 2, 300, 300);
         x.cut(0, 1);
@@ -226,7 +213,7 @@ public final class RangersTest {
     }
 
     private static void seesEachTrail() {
-        WayMarker x = withForks(4);
+        WayMarker x = Offices.withForks(4);
         x.addTrail(0, 1, 10, 10);
         x.addTrail(1, 2, 10, 10);
         x.addTrail(2, 3, 10, 10);
@@ -249,7 +236,7 @@ public final class RangersTest {
     }
 
     private static void looksForAWayAnew() {
-        WayMarker x = withForks(4);
+        WayMarker x = Offices.withForks(4);
         x.addTrail(0, 1, 10, 10);
         x.addTrail(1, 2, 10, 10);
         x.addTrail(0, 3, 100, 100);
@@ -272,7 +259,7 @@ public final class RangersTest {
     private static void leavesTheTaskIfTheNewWayIsTooLong() {
         // 10 minutes to fork 1, where the next trail is seen as gone, and 10 back.
         for (int way = 209; way <= 211; way++) {
-            WayMarker x = withForks(4);
+            WayMarker x = Offices.withForks(4);
             x.addTrail(0, 1, 10, 10);
             x.addTrail(1, 2, 10, 10);
             x.addTrail(0, 3, 220, 100);
@@ -290,7 +277,7 @@ public final class RangersTest {
     }
 
     private static void leavesTheTaskIfThereIsNoNewWay() {
-        WayMarker x = withForks(3);
+        WayMarker x = Offices.withForks(3);
         x.addTrail(0, 1, 10, 10);
         x.addTrail(1, 2, 10, 10);
         x.cut(2, 1);
@@ -307,7 +294,7 @@ public final class RangersTest {
     }
 
     private static void takesAnotherTaskBehindALeftOne() {
-        WayMarker x = withForks(3);
+        WayMarker x = Offices.withForks(3);
         x.addTrail(0, 1, 10, 10);
         x.addTrail(1, 2, 10, 10);
         x.cut(2, 1);
@@ -328,7 +315,7 @@ public final class RangersTest {
 
     /** The trail that is seen as gone on the way is that of the board as well, and the next one is too long. */
     private static void leavesWhatCannotBeDoneAnyMore() {
-        WayMarker x = withForks(3);
+        WayMarker x = Offices.withForks(3);
         x.addTrail(0, 1, 300, 5);
         x.addTrail(1, 2, 10, 5);
         x.addTrail(0, 2, 290, 1);
@@ -352,10 +339,10 @@ public final class RangersTest {
     }
 
     private static void replaces() {
-        WayMarker x = withForks(2);
+        WayMarker x = Offices.withForks(2);
         x.addTrail(0, 1, 10, 10);
         x.cut(0, 1);
-        reportGone(x, 0);
+        Offices.takeAsGone(x, 0);
         x.addTrail(0, 1, 46, 46);
         x.plan();
         x.addRanger(0, 1);
@@ -373,7 +360,7 @@ public final class RangersTest {
     }
 
     private static void replacingNeedsWoodAndWay() {
-        WayMarker x = withForks(2);
+        WayMarker x = Offices.withForks(2);
         x.addTrail(0, 1, 10, 10);
         for (int board = 0; board < 9; board++) {
             x.cut(0, 1);
@@ -385,17 +372,17 @@ public final class RangersTest {
         CHECKS.same("it took the lowest one", x.doneBy(0), 0);
         CHECKS.refuses("the other one is open", NoSuchElementException.class, () -> x.doneBy(1));
         x.addWood(5);
-        reportGone(x, 0);
+        Offices.takeAsGone(x, 0);
         CHECKS.same("no way to tell", x.day(), 0);
         x.addTrail(0, 1, 300, 300);
         CHECKS.same("a way of 300", x.day(), 1);
         CHECKS.same("told", x.told(1), 300);
-        WayMarker y = withForks(3);
+        WayMarker y = Offices.withForks(3);
         y.addTrail(0, 1, 10, 10);
         y.cut(0, 1);
         y.addTrail(0, 2, 150, 5);
         y.addTrail(2, 1, 151, 5);
-        reportGone(y, 0);
+        Offices.takeAsGone(y, 0);
         y.addTask('r', 0, 0);
         y.addRanger(0, 1);
         CHECKS.same("a way of 301", y.day(), 0);
@@ -403,7 +390,7 @@ public final class RangersTest {
     }
 
     private static void mends() {
-        WayMarker x = withForks(3);
+        WayMarker x = Offices.withForks(3);
         x.addTrail(0, 1, 10, 10);
         x.addTrail(1, 2, 5, 6);
         x.addTask('m', 1, 0);
@@ -411,7 +398,7 @@ public final class RangersTest {
         x.washOut(1);
         CHECKS.same("the office takes it as passable", x.day(), 0);
         CHECKS.same("no minutes", x.worked(0), 0);
-        reportGone(x, 1);
+        Offices.takeAsGone(x, 1);
         x.report(0, 1, false);
         CHECKS.same("mended", x.day(), 1);
         CHECKS.no("passable", x.isGone(1, true));
@@ -426,9 +413,9 @@ public final class RangersTest {
     }
 
     private static void mendsWhatIsPassable() {
-        WayMarker x = withForks(2);
+        WayMarker x = Offices.withForks(2);
         x.addTrail(0, 1, 10, 10);
-        reportGone(x, 0);
+        Offices.takeAsGone(x, 0);
         x.report(0, 0, false);
         x.addTask('m', 0, 0);
         x.addTask('m', 0, 0);
@@ -443,11 +430,11 @@ public final class RangersTest {
     }
 
     private static void mendsAtTheFirstFork() {
-        WayMarker x = withForks(3);
+        WayMarker x = Offices.withForks(3);
         x.addTrail(0, 1, 20, 30);
         x.addTrail(2, 1, 7, 7);
         x.addTrail(2, 0, 9, 9);
-        reportGone(x, 1);
+        Offices.takeAsGone(x, 1);
         x.addTask('m', 1, 0);
         x.addRanger(1, 2);
         CHECKS.same("mended", x.day(), 1);
@@ -456,7 +443,7 @@ public final class RangersTest {
     }
 
     private static void goesByTheLowestTrail() {
-        WayMarker x = withForks(4);
+        WayMarker x = Offices.withForks(4);
         x.addTrail(1, 3, 10, 10);
         x.addTrail(0, 2, 20, 20);
         x.addTrail(0, 1, 20, 20);

@@ -19,12 +19,7 @@ public final class ReportsTest {
 
     /** Two forks with so many trails of 10 minutes, and a ranger with all tools at the first one. */
     private static WayMarker withTrails(int trails) {
-        WayMarker x = new WayMarker();
-        x.addFork(true);
-        x.addFork(true);
-        for (int trail = 0; trail < trails; trail++) {
-            x.addTrail(0, 1, 10, 10);
-        }
+        WayMarker x = Offices.withTrails(trails);
         x.addRanger(0, 3);
         return x;
     }

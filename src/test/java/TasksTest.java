@@ -19,11 +19,6 @@ public final class TasksTest {
         CHECKS.end();
     }
 
-    private static void reportGone(WayMarker x, int trail) {
-        x.report(0, trail, true);
-        x.report(1, trail, true);
-    }
-
     private static void reportPassable(WayMarker x, int trail) {
         for (int walker = 0; walker < 10; walker++) {
             x.report(walker, trail, false);
@@ -94,7 +89,7 @@ public final class TasksTest {
         CHECKS.refuses("number ahead of room", IndexOutOfBoundsException.class, () -> x.addTask('m', 2, 0));
         CHECKS.same("40 are open", x.openTasks(), 40);
         CHECKS.same("the last one", x.kindOf(39), 'm');
-        reportGone(x, 0);
+        Offices.takeAsGone(x, 0);
         x.addRanger(0, 2);
         CHECKS.same("one is mended", x.day(), 1);
         CHECKS.same("39 are open", x.openTasks(), 39);
@@ -104,7 +99,7 @@ public final class TasksTest {
     private static void planCovers() {
         WayMarker x = small();
         CHECKS.same("nothing lies", x.plan(), 0);
-        reportGone(x, 0);
+        Offices.takeAsGone(x, 0);
         CHECKS.same("both lie", x.plan(), 2);
         CHECKS.same("kind of the first", x.kindOf(0), 'c');
         CHECKS.same("number of the first", x.numberOf(0), 0);
@@ -120,7 +115,7 @@ public final class TasksTest {
         CHECKS.same("cut anew", x.day(), 1);
         CHECKS.same("it tells the other trail", x.trailOf(0), 1);
         reportPassable(x, 0);
-        reportGone(x, 1);
+        Offices.takeAsGone(x, 1);
         CHECKS.same("the new one lies, the covered one no more", x.plan(), 2);
         CHECKS.same("the new one", x.numberOf(3), 0);
         CHECKS.same("is to be covered", x.kindOf(3), 'c');
@@ -147,9 +142,9 @@ public final class TasksTest {
         x.cut(3, 1);
         x.cut(0, 2);
         x.cut(4, 2);
-        reportGone(x, 1);
-        reportGone(x, 2);
-        reportGone(x, 3);
+        Offices.takeAsGone(x, 1);
+        Offices.takeAsGone(x, 2);
+        Offices.takeAsGone(x, 3);
         CHECKS.same("danger 1", x.danger(1, false), 35);
         CHECKS.same("danger 2", x.danger(2, false), 100);
         CHECKS.same("danger 3", x.danger(3, false), 200);
@@ -167,12 +162,12 @@ public final class TasksTest {
         WayMarker x = small();
         x.addTrail(0, 1, 5, 5);
         x.cut(0, 1);
-        reportGone(x, 0);
+        Offices.takeAsGone(x, 0);
         x.plan();
         x.addRanger(0, 0);
         CHECKS.same("both are covered", x.day(), 2);
         reportPassable(x, 0);
-        reportGone(x, 2);
+        Offices.takeAsGone(x, 2);
         CHECKS.yes("the last trail is taken as gone", x.isGone(2, false));
         CHECKS.same("two to uncover, one to cover", x.plan(), 3);
         CHECKS.same("the one to cover is the first", x.kindOf(2), 'c');
@@ -195,17 +190,17 @@ public final class TasksTest {
         WayMarker x = small();
         x.washOut(0);
         CHECKS.same("the office does not know", x.plan(), 0);
-        reportGone(x, 0);
+        Offices.takeAsGone(x, 0);
         CHECKS.same("the office knows", x.plan(), 2);
         WayMarker y = small();
         y.addTask('r', 0, 5);
-        reportGone(y, 0);
+        Offices.takeAsGone(y, 0);
         CHECKS.same("asked to replace, but not to cover", y.plan(), 2);
         y.addRanger(0, 0);
         y.day();
         reportPassable(y, 0);
         CHECKS.same("to uncover", y.plan(), 2);
-        reportGone(y, 0);
+        Offices.takeAsGone(y, 0);
         y.report(2, 0, true);
         y.report(3, 0, true);
         CHECKS.same("taken as passable still", y.plan(), 0);
@@ -223,7 +218,7 @@ public final class TasksTest {
         for (int task = 0; task < 39; task++) {
             x.addTask('m', 1, 0);
         }
-        reportGone(x, 0);
+        Offices.takeAsGone(x, 0);
         CHECKS.same("room for one", x.plan(), 1);
         CHECKS.same("the first board", x.numberOf(39), 0);
         CHECKS.same("room for none", x.plan(), 0);
@@ -235,7 +230,7 @@ public final class TasksTest {
         for (int board = 2; board < 30; board++) {
             y.cut(0, 1);
         }
-        reportGone(y, 0);
+        Offices.takeAsGone(y, 0);
         CHECKS.same("all boards", y.plan(), 30);
         for (int task = 0; task < 30; task++) {
             CHECKS.same("task " + task, y.numberOf(task), task);
@@ -270,7 +265,7 @@ public final class TasksTest {
         CHECKS.same("one is done", x.day(), 1);
         CHECKS.same("by who has the tool", x.doneBy(0), 1);
         CHECKS.refuses("open still", NoSuchElementException.class, () -> x.doneBy(1));
-        reportGone(x, 1);
+        Offices.takeAsGone(x, 1);
         CHECKS.same("the other one is done", x.day(), 1);
         CHECKS.same("by who has that tool", x.doneBy(1), 2);
         CHECKS.yes("sound", x.isSound());

@@ -59,16 +59,8 @@ public final class TrailsTest {
         CHECKS.refuses("a board to no place", IllegalArgumentException.class, () -> x.cut(14, 15));
     }
 
-    private static WayMarker withForks(int forks) {
-        WayMarker x = new WayMarker();
-        for (int fork = 0; fork < forks; fork++) {
-            x.addFork(true);
-        }
-        return x;
-    }
-
     private static void addTrail() {
-        WayMarker x = withForks(3);
+        WayMarker x = Offices.withForks(3);
         CHECKS.same("the first trail", x.addTrail(0, 1, 1, 300), 0);
         CHECKS.same("a second trail", x.addTrail(1, 0, 300, 1), 1);
         CHECKS.same("a third trail", x.addTrail(1, 2, 7, 9), 2);
@@ -90,7 +82,7 @@ public final class TrailsTest {
     }
 
     private static void addTrailRefuses() {
-        WayMarker x = withForks(2);
+        WayMarker x = Offices.withForks(2);
         int[][] wrongForks = {{-1, 0}, {0, -1}, {2, 0}, {0, 2}, {Integer.MIN_VALUE, 1}, {1, Integer.MAX_VALUE}, {2, 2}};
         for (int[] forks : wrongForks) {
             CHECKS.refuses("forks " + forks[0] + ", " + forks[1], IndexOutOfBoundsException.class,
@@ -108,7 +100,7 @@ public final class TrailsTest {
     }
 
     private static void addTrailOrder() {
-        WayMarker x = withForks(2);
+        WayMarker x = Offices.withForks(2);
         CHECKS.refuses("fork ahead of minutes", IndexOutOfBoundsException.class, () -> x.addTrail(0, 2, 0, 0));
         for (int trail = 0; trail < 24; trail++) {
             x.addTrail(0, 1, 5, 5);
@@ -119,7 +111,7 @@ public final class TrailsTest {
     }
 
     private static void washOut() {
-        WayMarker x = withForks(3);
+        WayMarker x = Offices.withForks(3);
         x.addTrail(0, 1, 10, 20);
         x.addTrail(1, 2, 30, 40);
         CHECKS.yes("it was passable", x.washOut(1));
@@ -137,7 +129,7 @@ public final class TrailsTest {
     }
 
     private static void isGone() {
-        WayMarker x = withForks(2);
+        WayMarker x = Offices.withForks(2);
         x.addTrail(0, 1, 10, 20);
         x.addTrail(0, 1, 10, 20);
         x.report(0, 1, true);
@@ -152,7 +144,7 @@ public final class TrailsTest {
     }
 
     private static void minutes() {
-        WayMarker x = withForks(4);
+        WayMarker x = Offices.withForks(4);
         x.addTrail(0, 1, 100, 1);
         x.addTrail(1, 2, 100, 1);
         x.addTrail(0, 2, 201, 3);
@@ -181,7 +173,7 @@ public final class TrailsTest {
     }
 
     private static void minutesOfLongWays() {
-        WayMarker x = withForks(16);
+        WayMarker x = Offices.withForks(16);
         // The trails of the way stand in the order that is the worst for one end.
         for (int fork = 14; fork >= 0; fork--) {
             x.addTrail(fork, fork + 1, 300, 299);
@@ -195,7 +187,7 @@ public final class TrailsTest {
     }
 
     private static void firstTrail() {
-        WayMarker x = withForks(4);
+        WayMarker x = Offices.withForks(4);
         x.addTrail(0, 1, 30, 40);
         x.addTrail(1, 2, 20, 25);
         x.addTrail(0, 2, 60, 60);
@@ -219,7 +211,7 @@ public final class TrailsTest {
     }
 
     private static void firstTrailOfSeveral() {
-        WayMarker x = withForks(4);
+        WayMarker x = Offices.withForks(4);
         x.addTrail(0, 1, 20, 20);
         x.addTrail(1, 3, 20, 20);
         x.addTrail(0, 2, 10, 10);

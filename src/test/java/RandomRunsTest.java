@@ -13,6 +13,8 @@ public final class RandomRunsTest {
     private final PlainOffice y = new PlainOffice();
     private final List<String> calls = new ArrayList<>();
     private final int mostMinutes;
+    // A crowded run begins with much of everything, and has more of what keeps rangers on their ways.
+    private final boolean isCrowded;
     private int forks = 0;
     private int trails = 0;
     private int boards = 0;
@@ -22,6 +24,7 @@ public final class RandomRunsTest {
     private RandomRunsTest(int seed) {
         random = new Random(seed);
         mostMinutes = seed % 3 == 0 ? 300 : seed % 3 == 1 ? 60 : 8;
+        isCrowded = seed % 5 == 0;
     }
 
     public static void main(String[] args) {
@@ -42,9 +45,31 @@ public final class RandomRunsTest {
         for (int trail = random.nextInt(first * 2 + 2); trail >= 0; trail--) {
             addTrail();
         }
-        while (calls.size() < CALLS && isRight) {
-            call(random.nextInt(100));
+        if (isCrowded) {
+            settle();
         }
+        while (calls.size() < CALLS && isRight) {
+            call(isCrowded && random.nextInt(3) == 0 ? crowding() : random.nextInt(100));
+        }
+    }
+
+    private void settle() {
+        for (int trail = random.nextInt(20); trail >= 0; trail--) {
+            addTrail();
+        }
+        both("addWood(30)", () -> x.addWood(30), () -> y.addWood(30));
+        for (int board = random.nextInt(80); board >= 0; board--) {
+            makeBoard();
+        }
+        for (int ranger = 0; ranger < 3; ranger++) {
+            ranger();
+        }
+    }
+
+    /** The dice of a call that makes tasks, lets a day pass, or tells of a storm. */
+    private int crowding() {
+        int[] dice = {6, 60, 60, 80};
+        return dice[random.nextInt(dice.length)];
     }
 
     private void call(int dice) {
@@ -154,7 +179,7 @@ public final class RandomRunsTest {
 
     private void report() {
         int trail = number(trails);
-        boolean isGone = random.nextBoolean();
+        boolean isGone = isCrowded && trail >= 0 && trail < trails ? y.isGone(trail, true) : random.nextBoolean();
         for (int more = random.nextInt(4); more >= 0; more--) {
             int walker = number(10);
             boolean says = random.nextInt(5) == 0 ? !isGone : isGone;
